@@ -26,7 +26,7 @@ public final class TermJudge {
     private static final int SIGN_STEP = 10;
 
     /** Nodes that fit before the rows must grow; most calls stay far below. */
-    private static final int FIRST_PLACES = 1024;
+    private static final int FIRST_PLACES = 512;
     /** Above what any call can need: some 15,000 nodes, beside those that stay. */
     private static final int MOST_PLACES = 1 << 16;
     /** Above what a comparison can hold open: 30 reductions allow no way of 200 parts down. */
@@ -102,7 +102,7 @@ public final class TermJudge {
     public boolean check(int t, int type, int fuel)
             throws IllegalArgumentException, IllegalStateException, UnsupportedOperationException {
         begin(t, type, fuel);
-        finder.levelFound(type);
+        finder.levelOf(finder.typeFound(type));
         return reducer.areSame(finder.typeFound(t), type);
     }
 
@@ -112,7 +112,7 @@ public final class TermJudge {
             return refuseUnlooked();
         }
         begin(type, type, fuel);
-        finder.levelFound(type);
+        finder.levelOf(finder.typeFound(type));
         return known.add(type, NONE);
     }
 
@@ -166,10 +166,6 @@ public final class TermJudge {
 
     private static boolean hasParts(int kind) {
         return kind == PI || kind == FUNCTION || kind == APPLICATION;
-    }
-
-    private static boolean binds(int kind) {
-        return kind == PI || kind == FUNCTION;
     }
 
     private boolean mayBeMade(int kind, int a, int b) {
@@ -229,44 +225,33 @@ public final class TermJudge {
         }
 
         int kindOf(int n) {
-            return valueAt(kinds, n);
+            return n >= 0 && n < kinds.length ? kinds[n] : NONE;
         }
 
         /** The part a, or the number that a is. */
         int leftOf(int n) {
-            return valueAt(lefts, n);
+            return n >= 0 && n < lefts.length ? lefts[n] : NONE;
         }
 
         int rightOf(int n) {
-            return valueAt(rights, n);
+            return n >= 0 && n < rights.length ? rights[n] : NONE;
         }
 
         int sizeOf(int n) {
-            return valueAt(sizes, n);
+            return n >= 0 && n < sizes.length ? sizes[n] : NONE;
         }
 
         int depthOf(int n) {
-            return valueAt(depths, n);
-        }
-
-        private static int valueAt(int[] row, int n) {
-            return n >= 0 && n < row.length ? row[n] : NONE;
+            return n >= 0 && n < depths.length ? depths[n] : NONE;
         }
 
         boolean mayJoin(int a, int b) {
-            return joinedSize(a, b) <= MOST_NODES && joinedDepth(a, b) <= MOST_DEEP;
+            return 1 + sizeOf(a) + sizeOf(b) <= MOST_NODES
+                    && 1 + Math.max(depthOf(a), depthOf(b)) <= MOST_DEEP;
         }
 
         boolean isTooMuch(int n) {
             return sizeOf(n) > MOST_NODES || depthOf(n) > MOST_DEEP;
-        }
-
-        private int joinedSize(int a, int b) {
-            return 1 + sizeOf(a) + sizeOf(b);
-        }
-
-        private int joinedDepth(int a, int b) {
-            return 1 + Math.max(depthOf(a), depthOf(b));
         }
 
         int addTerm(int kind, int a, int b) {
@@ -302,14 +287,19 @@ public final class TermJudge {
         }
 
         private void fill(int place, int kind, int a, int b) {
-            if (place < 0 || place >= kinds.length) {
+            int length = kinds.length;
+            if (place < 0 || place >= length) {
                 return;
             }
             kinds[place] = kind;
             lefts[place] = a;
             rights[place] = b;
-            sizes[place] = hasParts(kind) ? joinedSize(a, b) : 1;
-            depths[place] = hasParts(kind) ? joinedDepth(a, b) : 1;
+            sizes[place] = 1;
+            depths[place] = 1;
+            if (b != NONE && a >= 0 && a < length && b >= 0 && b < length) {
+                sizes[place] = 1 + sizes[a] + sizes[b];
+                depths[place] = 1 + Math.max(depths[a], depths[b]);
+            }
         }
 
         private void grow() {
@@ -333,49 +323,27 @@ public final class TermJudge {
         }
 
         /**
-         * A term, its variables from 'bound' on greater by n. What is raised is at most MOST_DEEP
-         * deep, as is all that make and TOO MUCH let pass, and so the recursion ends there.
+         * A term whose variables from 'bound' on become greater by n; or, if x is a term, the
+         * variable 'bound' becomes x, raised by as many as bind between, and those beyond it
+         * become greater by n. (To raise: no x. To put: n is -1.) What make and TOO MUCH let
+         * pass is at most MOST_DEEP deep, and so the recursion ends there, once in t, once in x.
          */
-        int raised(int t, int n, int bound) {
+        int changed(int t, int bound, int x, int n) {
             int kind = kindOf(t);
+            int a = leftOf(t);
             if (kind == VARIABLE) {
-                return n == 0 || leftOf(t) < bound ? t : add(VARIABLE, leftOf(t) + n, NONE);
-            }
-            if (n == 0 || !hasParts(kind)) {
-                return t;
-            }
-            int a = raised(leftOf(t), n, bound);
-            int b = raised(rightOf(t), n, binds(kind) ? bound + 1 : bound);
-            return withParts(t, a, b);
-        }
-
-        /**
-         * A term, x being put for variable 'bound' in it, as many as 'bound' binding between;
-         * MOST_DEEP deep at most, as for raised.
-         */
-        int put(int t, int x, int bound) {
-            int kind = kindOf(t);
-            if (kind == VARIABLE) {
-                return putForVariable(t, x, bound);
+                if (x != NONE && a == bound) {
+                    return bound == 0 ? x : changed(x, 0, NONE, bound);
+                }
+                return a < bound || n == 0 ? t : add(VARIABLE, a + n, NONE);
             }
             if (!hasParts(kind)) {
                 return t;
             }
-            int a = put(leftOf(t), x, bound);
-            int b = put(rightOf(t), x, binds(kind) ? bound + 1 : bound);
-            return withParts(t, a, b);
-        }
-
-        private int putForVariable(int t, int x, int bound) {
-            int number = leftOf(t);
-            if (number == bound) {
-                return raised(x, bound, 0);
-            }
-            return number < bound ? t : add(VARIABLE, number - 1, NONE);
-        }
-
-        private int withParts(int t, int a, int b) {
-            return a == leftOf(t) && b == rightOf(t) ? t : add(kindOf(t), a, b);
+            int b = rightOf(t);
+            int newA = changed(a, bound, x, n);
+            int newB = changed(b, kind == APPLICATION ? bound : bound + 1, x, n);
+            return newA == a && newB == b ? t : add(kind, newA, newB);
         }
 
         /** A term whose heads down to 'place' stay, with another one at that place. */
@@ -414,7 +382,7 @@ public final class TermJudge {
         }
 
         int add(int type, int body) {
-            if (isFull()) {
+            if (made < 0 || made >= MOST_CONSTANTS) {
                 return NONE;
             }
             types[made] = type;
@@ -455,7 +423,19 @@ public final class TermJudge {
                 if (place == NONE) {
                     return now;
                 }
-                now = afterReduction(now, place);
+                if (made >= fuel) {
+                    throw new UnsupportedOperationException("one reduction more than fuel");
+                }
+                int a = nodes.leftOf(place);
+                boolean unfolds = nodes.kindOf(place) == CONSTANT;
+                int other = unfolds
+                        ? known.bodyAt(a)
+                        : nodes.changed(nodes.rightOf(a), 0, nodes.rightOf(place), -1);
+                now = nodes.withHead(now, place, other);
+                if (nodes.isTooMuch(now)) {
+                    throw new UnsupportedOperationException("a reduction's term is too large");
+                }
+                made++;
             }
             throw new UnsupportedOperationException("too many reductions");
         }
@@ -474,26 +454,6 @@ public final class TermJudge {
             }
             boolean unfolds = kind == CONSTANT && known.bodyAt(nodes.leftOf(head)) != NONE;
             return unfolds ? head : NONE;
-        }
-
-        private int afterReduction(int t, int place) {
-            if (made >= fuel) {
-                throw new UnsupportedOperationException("one reduction more than fuel");
-            }
-            int next = nodes.withHead(t, place, replacement(place));
-            if (nodes.isTooMuch(next)) {
-                throw new UnsupportedOperationException("a reduction's term is too large");
-            }
-            made++;
-            return next;
-        }
-
-        private int replacement(int place) {
-            int a = nodes.leftOf(place);
-            if (nodes.kindOf(place) == CONSTANT) {
-                return known.bodyAt(a);
-            }
-            return nodes.put(nodes.rightOf(a), nodes.rightOf(place), 0);
         }
 
         /** Not even a term and itself are the same without its reductions. */
@@ -566,6 +526,7 @@ public final class TermJudge {
 
         int typeFound(int t) {
             int a = nodes.leftOf(t);
+            int b = nodes.rightOf(t);
             switch (nodes.kindOf(t)) {
                 case VARIABLE:
                     return typeOfVariable(a);
@@ -574,20 +535,21 @@ public final class TermJudge {
                 case CONSTANT:
                     return known.typeAt(a);
                 case PI:
-                    return typeOfPi(a, nodes.rightOf(t));
+                    return typeOfPi(a, b);
                 case FUNCTION:
-                    return typeOfFunction(a, nodes.rightOf(t));
+                    return typeOfFunction(a, b);
                 default:
-                    return typeOfApplication(a, nodes.rightOf(t));
+                    return typeOfApplication(a, b);
             }
         }
 
-        int levelFound(int t) {
-            int type = reducer.headForm(typeFound(t));
-            if (nodes.kindOf(type) != UNIVERSE) {
+        /** The level of a term whose type was found. */
+        int levelOf(int type) {
+            int head = reducer.headForm(type);
+            if (nodes.kindOf(head) != UNIVERSE) {
                 throw new IllegalStateException("what should be a type is none");
             }
-            return nodes.leftOf(type);
+            return nodes.leftOf(head);
         }
 
         private int typeOfVariable(int n) {
@@ -595,19 +557,19 @@ public final class TermJudge {
             if (place < 0 || place >= typeCount || place >= MOST_DEEP) {
                 throw new IllegalStateException("no type of this variable is known");
             }
-            return nodes.raised(types[place], n + 1, 0);
+            return nodes.changed(types[place], 0, NONE, n + 1);
         }
 
         private int typeOfPi(int a, int b) {
-            int level = levelFound(a);
+            int level = levelOf(typeFound(a));
             open(a);
-            int inner = levelFound(b);
+            int inner = levelOf(typeFound(b));
             typeCount--;
             return nodes.add(UNIVERSE, Math.max(level, inner), NONE);
         }
 
         private int typeOfFunction(int a, int b) {
-            levelFound(a);
+            levelOf(typeFound(a));
             open(a);
             int inner = typeFound(b);
             typeCount--;
@@ -622,7 +584,7 @@ public final class TermJudge {
             if (!reducer.areSame(typeFound(b), nodes.leftOf(pi))) {
                 throw new IllegalStateException("a function is applied to another type than its own");
             }
-            return notTooMuch(nodes.put(nodes.rightOf(pi), b, 0));
+            return notTooMuch(nodes.changed(nodes.rightOf(pi), 0, b, -1));
         }
 
         private void open(int type) {

@@ -29,6 +29,7 @@ public final class PromiseTest {
         t.promise6Reduce();
         t.promise6Putting();
         t.promise6Constants();
+        t.promise6AllFuel();
         t.promise6TooMuch();
         t.promise7Same();
         t.promise7SameOrder();
@@ -440,6 +441,21 @@ public final class PromiseTest {
         due.is("6 a stuck head", x.reduce(apply(x, bare, again), 0), 3);
         due.refused("6 no fuel", () -> x.reduce(named, 0), TOO_MUCH);
         due.is("6 the result stays", marks(x), "4 5 25");
+    }
+
+    private void promise6AllFuel() {
+        TermJudge x = new TermJudge();
+        int u1 = x.make(UNIVERSE, 1, 0);
+        int v0 = x.make(VARIABLE, 0, 0);
+        int named = x.make(CONSTANT, x.define(function(x, u1, v0), 0), 0);
+        int again = x.make(CONSTANT, x.define(named, 0), 0);
+        int ten = apply(x, again, again, again, again, again, again, again, again, again, again, v0);
+        due.is("6 three for each of ten", x.reduce(ten, 30), 1);
+        due.is("6 all fuel is used", x.reduced(), 30);
+        due.is("6 head form then", marks(x), "0");
+        due.refused("6 not with one less", () -> x.reduce(ten, 29), TOO_MUCH);
+        due.is("6 same with all fuel", x.same(ten, v0, 30), true);
+        due.refused("6 one more on the other side", () -> x.same(ten, named, 30), TOO_MUCH);
     }
 
     private void promise6TooMuch() {
