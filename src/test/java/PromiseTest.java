@@ -1,17 +1,5 @@
 /** For each promise of the document: ordinary calls, the edges that it names, and wrong calls. */
-public final class PromiseTest {
-    private static final int VARIABLE = 0;
-    private static final int UNIVERSE = 1;
-    private static final int PI = 2;
-    private static final int FUNCTION = 3;
-    private static final int APPLICATION = 4;
-    private static final int CONSTANT = 5;
-    private static final int NONE = TermJudge.NONE;
-
-    private static final Class<IllegalArgumentException> NO_SUCH = IllegalArgumentException.class;
-    private static final Class<IllegalStateException> WRONG = IllegalStateException.class;
-    private static final Class<UnsupportedOperationException> TOO_MUCH = UnsupportedOperationException.class;
-
+public final class PromiseTest extends TestTerms {
     private final Due due = new Due();
 
     public static void main(String[] args) {
@@ -43,48 +31,6 @@ public final class PromiseTest {
         t.promise15KeepRefuses();
         t.promise16Reduced();
         t.due.end("PromiseTest");
-    }
-
-    /** The marks of the RESULT, as far as there are any, joined by blanks. */
-    private static String marks(TermJudge x) {
-        StringBuilder text = new StringBuilder();
-        for (int k = 0; x.mark(k) != NONE; k++) {
-            text.append(k == 0 ? "" : " ").append(x.mark(k));
-        }
-        return text.toString();
-    }
-
-    private static int chain(TermJudge x, int kind, int first, int other, int times) {
-        int t = first;
-        for (int i = 0; i < times; i++) {
-            t = x.make(kind, t, other);
-        }
-        return t;
-    }
-
-    /** f of f of .. of t. */
-    private static int nested(TermJudge x, int f, int t, int times) {
-        int now = t;
-        for (int i = 0; i < times; i++) {
-            now = x.make(APPLICATION, f, now);
-        }
-        return now;
-    }
-
-    private static int function(TermJudge x, int type, int body) {
-        return x.make(FUNCTION, type, body);
-    }
-
-    private static int apply(TermJudge x, int f, int... arguments) {
-        int t = f;
-        for (int argument : arguments) {
-            t = x.make(APPLICATION, t, argument);
-        }
-        return t;
-    }
-
-    private static int declared(TermJudge x, int type) {
-        return x.make(CONSTANT, x.declare(type, 30), 0);
     }
 
     private void promise1New() {
