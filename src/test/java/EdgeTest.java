@@ -22,7 +22,10 @@ public final class EdgeTest extends TestTerms {
         t.noSuchTermOrWhat();
         t.variablesBeyondAllAreFree();
         t.raisedByAsManyAsBindBetween();
+        t.putBesideItself();
         t.lessBy1();
+        t.lessBy1InAnApplicationsType();
+        t.bindsInItsBAlone();
         t.otherHeadsStay();
         t.universesAbove9();
         t.levelsThatAreNone();
@@ -227,7 +230,8 @@ public final class EdgeTest extends TestTerms {
         x.make(VARIABLE, 7, 0);
         x.make(FUNCTION, 0, 0);
         for (int what = -3; what <= 20; what++) {
-            due.is("a leaf's " + what, x.term(0, what), what == 1 ? 7 : what == 0 ? 0 : what == 3 || what == 4 ? 1 : NONE);
+            int want = what == 0 ? VARIABLE : what == 1 ? 7 : what == 3 || what == 4 ? 1 : NONE;
+            due.is("a leaf's " + what, x.term(0, what), want);
             due.is("what a term that isn't there has", x.term(2, what), NONE);
         }
         for (int far : FAR) {
@@ -291,6 +295,24 @@ public final class EdgeTest extends TestTerms {
         }
     }
 
+    /** The same sentence, where the part beside the variable is the very term that is put. */
+    private void putBesideItself() {
+        TermJudge x = new TermJudge();
+        int u0 = x.make(UNIVERSE, 0, 0);
+        int v0 = x.make(VARIABLE, 0, 0);
+        int v1 = x.make(VARIABLE, 1, 0);
+        int closed = x.make(PI, u0, u0);
+        for (int kind = PI; kind <= APPLICATION; kind++) {
+            int inB = kind == APPLICATION ? v0 : v1;
+            x.reduce(apply(x, function(x, u0, x.make(kind, v0, closed)), closed), 1);
+            due.is("put as a", marks(x), kind + " 2 1 1 2 1 1");
+            x.reduce(apply(x, function(x, u0, x.make(kind, closed, inB)), closed), 1);
+            due.is("put as b", marks(x), kind + " 2 1 1 2 1 1");
+            x.reduce(apply(x, function(x, u0, x.make(kind, v0, inB)), closed), 1);
+            due.is("put as both", marks(x), kind + " 2 1 1 2 1 1");
+        }
+    }
+
     /** "variables that are free in that PI or FUNCTION become less by 1". */
     private void lessBy1() {
         for (int between = 0; between <= 8; between++) {
@@ -302,6 +324,53 @@ public final class EdgeTest extends TestTerms {
                 due.is("variable " + n + " with " + between + " between", x.mark(2 * between), want);
             }
         }
+    }
+
+    /** The same sentence, where "the type is the b of the PI, the application's b being put for the variable". */
+    private void lessBy1InAnApplicationsType() {
+        TermJudge x = new TermJudge();
+        int u0 = x.make(UNIVERSE, 0, 0);
+        int v0 = x.make(VARIABLE, 0, 0);
+        int v1 = x.make(VARIABLE, 1, 0);
+        int v2 = x.make(VARIABLE, 2, 0);
+        int used = function(x, v1, apply(x, v1, v0));
+        int one = function(x, u0, function(x, x.make(PI, v0, v1), used));
+        due.is("a type A, a function from A to A, an a: one call", x.infer(one, 0), 9);
+        due.is("variable 1 of the PI is A", marks(x), "2 1 2 2 0 10 2 10 20");
+        int usedBehind = function(x, v2, apply(x, v1, v0));
+        int further = function(x, u0, function(x, u0, function(x, x.make(PI, v1, v1), usedBehind)));
+        due.is("types A and B, a function from A to B, an a", x.infer(further, 0), 11);
+        due.is("variable 1 of the PI is B", marks(x), "2 1 2 1 2 2 10 10 2 20 20");
+        int toPi = x.make(PI, v0, x.make(PI, v0, v2));
+        int deeper = function(x, u0, function(x, toPi, function(x, v1, apply(x, v1, v0))));
+        due.refused("PI A (PI of an a ..) is no type", () -> x.infer(deeper, 0), WRONG);
+        int toBoth = x.make(PI, v0, x.make(PI, v1, v2));
+        int both = function(x, u0, function(x, toBoth, function(x, v1, apply(x, v1, v0))));
+        due.is("a function of two", x.infer(both, 0), 13);
+        due.is("one A is left", marks(x), "2 1 2 2 0 2 10 20 2 10 2 20 30");
+    }
+
+    /** "A PI and a FUNCTION BIND a variable in b": not in a, and nowhere outside. */
+    private void bindsInItsBAlone() {
+        TermJudge x = new TermJudge();
+        int u0 = x.make(UNIVERSE, 0, 0);
+        int u1 = x.make(UNIVERSE, 1, 0);
+        int v0 = x.make(VARIABLE, 0, 0);
+        int v1 = x.make(VARIABLE, 1, 0);
+        int id = function(x, u0, v0);
+        int pi = x.make(PI, u0, v0);
+        due.refused("behind a FUNCTION", () -> x.infer(apply(x, id, v0), 0), WRONG);
+        due.refused("behind two", () -> x.infer(apply(x, function(x, u0, id), v0), 0), WRONG);
+        due.refused("behind a PI", () -> x.infer(apply(x, function(x, u1, pi), v0), 0), WRONG);
+        due.refused("in a FUNCTION's a", () -> x.infer(function(x, v0, u0), 0), WRONG);
+        due.refused("in a PI's a", () -> x.infer(x.make(PI, v0, u0), 0), WRONG);
+        due.refused("in the b around a PI", () -> x.infer(x.make(PI, pi, v1), 0), WRONG);
+        due.refused("in the term of a check", () -> x.check(v0, pi, 0), WRONG);
+        due.refused("in the type of a check", () -> x.check(id, v0, 0), WRONG);
+        int doubled = function(x, u1, x.make(PI, v0, v1));
+        due.is("the outer one again, behind an inner one", x.infer(function(x, u1, apply(x, doubled, v0)), 0), 3);
+        due.is("so it is in a PI", x.infer(x.make(PI, u1, apply(x, doubled, v0)), 0), 1);
+        due.is("and where a PI lies in both", x.infer(function(x, u0, x.make(PI, pi, v1)), 0), 3);
     }
 
     /** "Otherwise there is none; then the term is in its HEAD FORM." */
