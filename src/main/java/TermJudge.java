@@ -538,8 +538,10 @@ public final class TermJudge {
                     return typeOfPi(a, b);
                 case FUNCTION:
                     return typeOfFunction(a, b);
-                default:
+                case APPLICATION:
                     return typeOfApplication(a, b);
+                default:
+                    return NONE;
             }
         }
 

@@ -47,6 +47,7 @@ public final class FuelTest extends TestTerms {
         t.tooDeepInEachCall();
         t.theWholeTermThatIsBrought();
         t.onlyTheTermThatIsBrought();
+        t.theFirstOneThenTheSecond();
         t.putTooGreat();
         t.piTooGreat();
         t.foundFirstInParts();
@@ -358,6 +359,43 @@ public final class FuelTest extends TestTerms {
         due.is("both reduced", x.reduced(), 2);
         int applied = apply(x, v0, deep12);
         due.is("also below a head form", x.same(applied, applied, 30), true);
+    }
+
+    /**
+     * "the first one is brought to its head form, then the second one": one of them is brought there
+     * by one reduction, the other is TOO MUCH at once, so reduced() tells which came first.
+     */
+    private void theFirstOneThenTheSecond() {
+        TermJudge x = new TermJudge();
+        int[] had = new int[60];
+        int u0 = sized(x, 1, had);
+        int u1 = x.make(UNIVERSE, 1, 0);
+        int v0 = x.make(VARIABLE, 0, 0);
+        int one = apply(x, function(x, u1, v0), u0);
+        int much = apply(x, function(x, u1, x.make(PI, v0, x.make(VARIABLE, 1, 0))), sized(x, 31, had));
+        muchAfter("same, the first one", 0, () -> x.same(much, one, 30), x);
+        muchAfter("same, the second one", 1, () -> x.same(one, much, 30), x);
+        for (int kind = PI; kind <= FUNCTION; kind++) {
+            int[] byA = {x.make(kind, much, u0), x.make(kind, one, u0)};
+            int[] byB = {x.make(kind, u0, much), x.make(kind, u0, one)};
+            muchAfter("same, the first one's a", 0, () -> x.same(byA[0], byA[1], 30), x);
+            muchAfter("same, the second one's a", 1, () -> x.same(byA[1], byA[0], 30), x);
+            muchAfter("same, the first one's b", 0, () -> x.same(byB[0], byB[1], 30), x);
+            muchAfter("same, the second one's b", 1, () -> x.same(byB[1], byB[0], 30), x);
+        }
+        int ofOne = declared(x, one);
+        int ofMuch = declared(x, much);
+        muchAfter("check, what was found", 0, () -> x.check(ofMuch, one, 30), x);
+        muchAfter("check, then the type", 1, () -> x.check(ofOne, much, 30), x);
+        int takesOne = declared(x, x.make(PI, one, u0));
+        int takesMuch = declared(x, x.make(PI, much, u0));
+        muchAfter("infer, the type of b", 0, () -> x.infer(apply(x, takesOne, ofMuch), 30), x);
+        muchAfter("infer, then the a of the PI", 1, () -> x.infer(apply(x, takesMuch, ofOne), 30), x);
+    }
+
+    private void muchAfter(String name, int made, Due.Call call, TermJudge x) {
+        due.refused(name, call, TOO_MUCH);
+        due.is(name + ": reduced()", x.reduced(), made);
     }
 
     /** A type N, zero of it, next of one, join of two, and Q of two: constants 0 to 4, in this order. */
